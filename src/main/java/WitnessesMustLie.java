@@ -780,12 +780,12 @@ public final class WitnessesMustLie {
         tried.becomes(court);
         int statements = 0;
         int at = 0;
-        while (at < text.length) {
+        while (at < text.length && statements < MOST_NUMBERS) {
             if (!isEnacted(text, at)) {
                 return NO_STATEMENT_HERE - at;
             }
             statements++;
-            // The letter and the ";" stand round the digits; no letter counts -1, so that this always goes on.
+            // The letter and the ";" stand round the digits.
             at += digitsBehind(text.numberAt(at)) + 2;
         }
         court.becomes(tried);
@@ -1123,7 +1123,7 @@ public final class WitnessesMustLie {
         }
 
         long trueWorlds(long withA, long withB, long withFigure) {
-            return super.trueWorlds(withA, withB, withFigure) | withFigure;
+            return withA | withB | withFigure;
         }
 
         int words(int figure) {

@@ -575,6 +575,12 @@ final class PromiseTests {
         due("said 0 and 4, or 0 and 1: the least", x.slipped(), 1 + 2);
         rules(EXPERT, 0, 0);
         due("no world may be", x.slipped(), -4);
+        begin("promise 19, slipped, the edges");
+        tell("w00;l0055;s00055;s00055;s00055;s00055;s00055;s00055;s00055;s00055;s00055;s00055;");
+        due("all ten, by law", x.slipped(), 1023);
+        begin("promise 19, slipped, world 0");
+        tell("w00;l1000;l1011;l1022;l1033;l1044;l1055;s01000;");
+        due("world 0 alone may be", x.slipped(), 1);
     }
 
     private void ask() {
@@ -670,6 +676,11 @@ final class PromiseTests {
         x.truth(0);
         // Says 12, both 4, either 4, experts 12, poets 4.
         due("lies in another truth", x.lie(2, 0), 36);
+        due("a poet without a figure is about 0, which 1 does not know", x.lie(1, 0), 14);
+        says(2, BOTH, 0, 1);
+        due("what is said once more takes nothing", x.lie(2, 1), 201);
+        due("worlds left", x.lie(2, 2), 48);
+        x.unsays();
         says(0, SAYS, 1, 0);
         due("what takes no more is told first", x.lie(1, 1), 10);
         due("worlds left", x.lie(1, 2), 32);
@@ -747,6 +758,13 @@ final class PromiseTests {
     }
 
     private void knowsOf() {
+        begin("promise 29, knowsOf, world 0");
+        tell("l1022;l1033;l1044;l1055;w00;w01;");
+        due("in world 0, too, 1 is not certain of 1", x.knowsOf(0, 1), 61);
+        says(0, BOTH, 0, 1);
+        says(0, SAYS, 1, 0);
+        says(0, SAYS, 0, 0);
+        due("world 0 alone is left", x.knowsOf(0, 1), 63);
         begin("promise 29, knowsOf");
         tell("w01;w02;w00;l4001;t03;");
         due("that 1 is certain of 1", x.knowsOf(0, 1), 2);
@@ -997,6 +1015,9 @@ final class PromiseTests {
         due("nothing changed", x.element(0, 99), LEAST);
         due("row(0, 2, 100)", x.row(0, 2, 100), 0);
         due("elements are 0 at first", x.element(0, 99), 0);
+        fill(0, 0, 1, 1);
+        x.row(0, 0, 2);
+        due("the first is 0 again", x.element(0, 0), 0);
         due("row(0, 1, 0)", x.row(0, 1, 0), 0);
         due("no place", x.put(0, 0, 0), -13);
     }
@@ -1080,6 +1101,10 @@ final class PromiseTests {
         due("another sort", x.copy(0, 0, 3, 0, 1), -12);
         x.keep(3, 1, 0, 0);
         due("a saying", x.copy(3, 0, 0, 0, 9), -12);
+        x.keep(4, 1, 0, 0);
+        x.row(5, 0, 1);
+        due("a saying to bytes", x.copy(4, 0, 5, 0, 0), -12);
+        due("bytes to a saying", x.copy(5, 0, 4, 0, 0), -12);
         due("a saying", x.copy(0, 0, 3, 0, 1), -12);
         due("two sayings", x.copy(3, 0, 3, 0, 1), -12);
         due("a saying and nothing", x.copy(3, 0, 2, 0, 1), -11);
