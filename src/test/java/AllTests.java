@@ -5,7 +5,13 @@ public final class AllTests {
 
     public static void main(String[] args) throws Exception {
         Checks checks = new Checks();
-        new PromiseTests(checks).runAll();
+        CourtTests[] workedByHand = {
+            new PromiseTests(checks), new TrialEdges(checks), new WorldEdges(checks), new ShelfEdges(checks),
+            new RangeTests(checks), new RefusalTests(checks)
+        };
+        for (CourtTests tests : workedByHand) {
+            tests.runAll();
+        }
         new LanguageTests(checks).runAll();
         new RandomRuns(checks).runAll();
         System.out.println(checks.passed() + " passed, " + checks.failed() + " failed");

@@ -1,23 +1,7 @@
 /** One test or more for each promise of the document, in its order, the answers worked out by hand. */
-final class PromiseTests {
-    private static final long OF_LONGS = 4000000000000000000L;
-    private static final int LEAST = Integer.MIN_VALUE;
-    private static final int GREATEST = Integer.MAX_VALUE;
-
-    private static final int SAYS = 0;
-    private static final int DENIES = 1;
-    private static final int BOTH = 2;
-    private static final int EITHER = 3;
-    private static final int IF = 4;
-    private static final int ALIKE = 5;
-    private static final int EXPERT = 6;
-    private static final int POET = 7;
-
-    private final Checks checks;
-    private WitnessesMustLie x;
-
+final class PromiseTests extends CourtTests {
     PromiseTests(Checks checks) {
-        this.checks = checks;
+        super(checks);
     }
 
     void runAll() {
@@ -100,45 +84,6 @@ final class PromiseTests {
         copy();
         cost();
         toss();
-    }
-
-    private void begin(String promise) {
-        checks.begin(promise);
-        x = new WitnessesMustLie();
-    }
-
-    private void due(String call, long got, long want) {
-        checks.due(call, got, want);
-    }
-
-    /** Puts a text on shelf 0 and has it told. */
-    private int tell(String text) {
-        x.row(0, 0, text.length());
-        for (int i = 0; i < text.length(); i++) {
-            x.put(0, i, text.charAt(i));
-        }
-        return x.trial(0);
-    }
-
-    private void told(String text, int want) {
-        due("trial of " + text, tell(text), want);
-    }
-
-    private int rules(int kind, int a, int b) {
-        x.keep(7, 1, kind, 0);
-        return x.rules(7, a, b);
-    }
-
-    private int says(int witness, int kind, int a, int b) {
-        x.keep(7, 1, kind, 0);
-        return x.says(witness, 7, a, b);
-    }
-
-    private void fill(int d, int sort, int... numbers) {
-        x.row(d, sort, numbers.length);
-        for (int i = 0; i < numbers.length; i++) {
-            x.put(d, i, numbers[i]);
-        }
     }
 
     private void newObject() {
@@ -1061,15 +1006,7 @@ final class PromiseTests {
     }
 
     private void elementThrows(int d, int i, int want) {
-        int thrown = 0;
-        try {
-            x.element(d, i);
-        } catch (IllegalArgumentException refused) {
-            thrown = 1;
-        } catch (IllegalStateException refused) {
-            thrown = 2;
-        }
-        due("element(" + d + ", " + i + ") throws (1 an argument, 2 a state)", thrown, want);
+        due("element(" + d + ", " + i + ") throws (1 an argument, 2 a state)", thrownBy(x, d, i), want);
     }
 
     private void copy() {
