@@ -16,6 +16,9 @@ final class TrialEdges extends CourtTests {
         theTruthIs0AtFirst();
         figuresAre0To9();
         kindsAre0To7();
+        lawsAndSayingsAreTold();
+        aSlipIsTrueInTheTruth();
+        unsaysNone();
         factsMayBeAlike();
         expertsAreNeverTrue();
         aPoetsFigureIsTakenModulo6();
@@ -135,6 +138,50 @@ final class TrialEdges extends CourtTests {
         }
         due("the shelf stays", x.cost(1), 2);
         due("kind 7 is a poet", x.toss(2), 210);
+    }
+
+    private void lawsAndSayingsAreTold() {
+        begin("I, a SAYING has a KIND, a FIGURE, two FACTS");
+        tell("w00;w00;l7905;");
+        due("the law's kind", x.law(0, 0), 7);
+        due("the law's figure", x.law(0, 1), 9);
+        due("the law's a", x.law(0, 2), 0);
+        due("the law's b", x.law(0, 3), 5);
+        due("the law's size", x.law(0, 4), 15);
+        due("the law is about", x.law(0, 5), 1 + 32 + 8);
+        for (int kind = SAYS; kind <= POET; kind++) {
+            x.keep(1, 1, kind, 9 - kind);
+            x.says(kind % 2, 1, kind % 6, 5 - kind % 6);
+            due("kind " + kind, x.said(kind, 0), kind);
+            due("figure of kind " + kind, x.said(kind, 1), 9 - kind);
+            due("a of kind " + kind, x.said(kind, 2), kind % 6);
+            due("b of kind " + kind, x.said(kind, 3), 5 - kind % 6);
+            due("who said kind " + kind, x.said(kind, 6), kind % 2);
+        }
+    }
+
+    private void aSlipIsTrueInTheTruth() {
+        begin("I, a SLIP: one that is TRUE in the TRUTH");
+        tell("w00;s00055;s01055;s06055;s04055;");
+        due("not in world 0", x.said(0, 7), 0);
+        due("its denial", x.said(1, 7), 1);
+        due("an expert never", x.said(2, 7), 0);
+        due("what is always true", x.said(3, 7), 1);
+        x.truth(63);
+        due("in world 63", x.said(0, 7), 1);
+        due("its denial", x.said(1, 7), 0);
+        due("an expert never", x.said(2, 7), 0);
+        due("what is always true", x.said(3, 7), 1);
+    }
+
+    private void unsaysNone() {
+        begin("promise 9, -3 none");
+        due("nothing said", x.unsays(), -3);
+        tell("w00;s00000;");
+        due("the last", x.unsays(), 0);
+        due("no more", x.unsays(), -3);
+        due("none is told", x.said(0, 0), -1);
+        due("he who said it stays", x.count(1), 1);
     }
 
     private void factsMayBeAlike() {

@@ -21,6 +21,7 @@ final class WorldEdges extends CourtTests {
 
     private void worlds() {
         theBitOfWorld63();
+        mayBeWhateverIsSaid();
         provedOfNoneLeft();
         provedOfOneWorld();
         slipsOfNoneAndOfAll();
@@ -40,6 +41,7 @@ final class WorldEdges extends CourtTests {
         askOfSeveral();
         plainByNobody();
         plainByTheFewest();
+        plainByAll();
         plainByNone();
         orderOfTheLeastDigits();
         orderOfNone();
@@ -50,6 +52,7 @@ final class WorldEdges extends CourtTests {
     private void lies() {
         lieOfNone();
         lieOfSeveral();
+        lieOfPoets();
         lieWhereNoneIsLeft();
         twoLiesOfNone();
         tellsOfNoneAndOfAll();
@@ -62,6 +65,8 @@ final class WorldEdges extends CourtTests {
         knowsOfWhereThereIsNone();
         knowsOfOneself();
         allKnowDepths();
+        allKnowByWorld0();
+        allKnowOfATruthThatIsNotLeft();
         allKnowWhereThereIsNone();
     }
 
@@ -92,6 +97,24 @@ final class WorldEdges extends CourtTests {
         begin("II, WORLDS as bits of a long, world 0");
         tell("l1000;l1011;l1022;l1033;l1044;l1055;");
         due("world 0 is bit 0", x.worlds(0), 1);
+    }
+
+    private void mayBeWhateverIsSaid() {
+        begin("II, MAY BE and LEFT");
+        tell("l0055;w00;s00000;");
+        due("worlds that may be", x.worlds(0), 0xFFFFFFFF00000000L);
+        due("worlds left", x.worlds(1), 0x5555555500000000L);
+        due("how many may be", x.many(0), 32);
+        due("how many are left", x.many(1), 16);
+        x.truth(33);
+        due("the truth may be", x.count(5), 1);
+        due("but is not left", x.count(6), 0);
+        x.truth(32);
+        due("another may be", x.count(5), 1);
+        due("and is left", x.count(6), 1);
+        x.truth(0);
+        due("a third may not be", x.count(5), 0);
+        due("nor is it left", x.count(6), 0);
     }
 
     private void provedOfNoneLeft() {
@@ -235,9 +258,23 @@ final class WorldEdges extends CourtTests {
         // Either 0 or 1 must be: 0 makes 0 and 3 true, 1 makes 1 and 2 true.
         tell("l3001;w00;s00000;s00011;s00011;s00000;");
         due("1 and 2 before 0 and 3", x.slipped(), 6);
+        begin("II, WHO SLIPPED: of several sets of two the least, in the first world");
+        tell("l3001;w00;s00011;s00000;s00000;s00011;");
+        due("1 and 2 before 0 and 3", x.slipped(), 6);
+        begin("II, WHO SLIPPED: the fewest, not the least");
+        tell("l3001;w00;s00011;s00011;s00000;");
+        due("2 alone before 0 and 1", x.slipped(), 4);
         begin("II, WHO SLIPPED: all");
         tell("l2001;w00;s00000;s00011;s03011;s04011;");
         due("all by law", x.slipped(), 15);
+        tell("s00000;s00000;s00000;s00000;s00000;s00000;");
+        due("all ten by law", x.slipped(), 1023);
+        begin("II, WHO SLIPPED in WORLD 0, in WORLD 63");
+        tell("l1000;l1011;l1022;l1033;l1044;l1055;w00;s01000;s00000;");
+        due("world 0 alone may be", x.slipped(), 1);
+        begin("II, WHO SLIPPED in WORLD 63");
+        tell("l2001;l2023;l2045;w00;s01000;s00000;");
+        due("world 63 alone may be", x.slipped(), 2);
     }
 
     private void slippedOfNone() {
@@ -302,6 +339,17 @@ final class WorldEdges extends CourtTests {
         begin("II, PLAIN: all that they SAID");
         tell(FOUR_FACTS + "w00;w00;s00000;s10000;s00011;");
         due("0 by two sayings", x.plain(), 1);
+    }
+
+    private void plainByAll() {
+        begin("II, PLAIN, ORDER: all five WITNESSES");
+        tell("l0055;w00;w00;w00;w00;w00;s00000;s10011;s20022;s30033;s40044;");
+        due("all of them", x.plain(), 31);
+        due("five must come", x.order(0), 5);
+        due("the digits of all", x.order(1), 1234);
+        x.unsays();
+        due("four are too few", x.plain(), -4);
+        due("however they come", x.order(0), -4);
     }
 
     private void plainByNone() {
@@ -412,6 +460,15 @@ final class WorldEdges extends CourtTests {
         due("so many", x.lie(0, 2), 48);
     }
 
+    private void lieOfPoets() {
+        begin("II, A LIE of FIGURE 0");
+        tell("w03;w02;t02;");
+        // Says 6, denies 6, both 3, either 1, if 1, alike 2, experts 12, a poet of 0 twice.
+        due("who knows 0 and 1", x.lie(0, 0), 32);
+        // Denies 6, experts 6: poets are about 0.
+        due("who knows 1 alone", x.lie(1, 0), 12);
+    }
+
     private void lieWhereNoneIsLeft() {
         begin("II, A LIE, none LEFT");
         tell("l6000;w32;");
@@ -519,6 +576,20 @@ final class WorldEdges extends CourtTests {
         }
     }
 
+    private void allKnowByWorld0() {
+        begin("II, ALL KNOW: one after the other, by WORLD 0");
+        // Worlds 0, 1, 2 are left: from 1 one comes to 0 by him who knows 1, from there to 2 by him who knows 0.
+        tell("l1022;l1033;l1044;l1055;w02;w01;s02001;t01;");
+        due("depth 0", x.allKnow(0), 62);
+        due("depth 1", x.allKnow(1), 60);
+        due("depth 5", x.allKnow(5), 60);
+        begin("II, ALL KNOW: one after the other, by WORLD 63");
+        tell("l0022;l0033;l0044;l0055;l3001;w02;w01;t62;");
+        // Worlds 61, 62, 63 may be: from 62 to 63, from there to 61.
+        due("depth 0", x.allKnow(0), 62);
+        due("depth 1", x.allKnow(1), 60);
+    }
+
     private void allKnowWhereThereIsNone() {
         begin("II, ALL KNOW, none LEFT");
         tell("w00;s00000;s01000;");
@@ -535,6 +606,18 @@ final class WorldEdges extends CourtTests {
         due("depth 0", x.allKnow(0), -3);
         due("depth 5", x.allKnow(5), -3);
         due("depth 6", x.allKnow(6), -1);
+    }
+
+    private void allKnowOfATruthThatIsNotLeft() {
+        begin("II, ALL KNOW: in all of these it is as in the TRUTH, which is not LEFT");
+        tell("l2001;l2023;l2045;w00;t15;");
+        due("he is certain of all", x.certain(0), 63);
+        due("4 and 5 are not as in the truth", x.allKnow(0), 15);
+        due("nor in any depth", x.allKnow(5), 15);
+        x.witness(32);
+        due("one more, who takes none", x.allKnow(0), 15);
+        x.truth(63);
+        due("a truth that is left", x.allKnow(0), 63);
     }
 
     private void pencilsAtTheEnds() {
