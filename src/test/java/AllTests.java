@@ -13,6 +13,7 @@ public final class AllTests {
             tests.runAll();
         }
         new LanguageTests(checks).runAll();
+        new ReadmeTests(checks).runAll();
         new RandomRuns(checks).runAll();
         System.out.println(checks.passed() + " passed, " + checks.failed() + " failed");
         if (checks.failed() != 0 || checks.passed() == 0) {
